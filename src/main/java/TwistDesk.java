@@ -225,7 +225,7 @@ public final class TwistDesk {
         private static final int Y_MASK = (1 << Y_BITS) - 1;
         // More than there are prime factors in any number below 2^14.
         private static final int MOST_FACTORS = 14;
-        // Its square is above the number of points of every curve.
+        // Near the square root of the greatest number of points, so that both walks of a log stay short.
         private static final int STRIDE = 128;
 
         final int prime;

@@ -1,11 +1,17 @@
 /** Prints every answer that is not the one that is due, and ends the test with exit code 1 if there was one. */
 final class Check {
     private final String test;
+    private String sentence = "";
     private int looked = 0;
     private int wrong = 0;
 
     Check(String test) {
         this.test = test;
+    }
+
+    /** Names the document's words that the answers from here on are due by. */
+    void about(String words) {
+        sentence = "[" + words + "] ";
     }
 
     void due(String call, long got, long want) {
@@ -52,6 +58,6 @@ final class Check {
 
     private void tell(String text) {
         wrong++;
-        System.out.println(test + ": " + text);
+        System.out.println(test + ": " + sentence + text);
     }
 }

@@ -1,17 +1,24 @@
 import java.util.Random;
 import java.util.function.LongSupplier;
 
-/** Long runs of calls, chosen by a fixed seed, on TwistDesk and on SlowDesk: every answer and the state after it. */
+/**
+ * Runs of 512 calls, as many as the document allows, chosen by a fixed seed, on TwistDesk and on SlowDesk: every
+ * answer is looked at, one register after each call, and the whole state at the end.
+ */
 public final class SlowDeskTest {
     private static final int CALLS = 512;
-    private static final int[] RUNS = {60, 60, 60, 12, 5};
-    private static final int TOP = 1 << 30;
+    /** A turn's dearest way, signing and reading back, and a look at a register. */
+    private static final int CALLS_OF_A_TURN = 4 + 3;
+    private static final int CALLS_OF_THE_STATE = 29;
+    private static final int[] RUNS = {300, 300, 300, 60, 20};
+    private static final int TOP = Desks.TOP;
 
     private final Check check;
     private final Random random;
     private final TwistDesk desk = new TwistDesk();
     private final SlowDesk slow = new SlowDesk();
     private final int ownKind;
+    private int calls = 0;
     private long lastSignature = 0;
     private int lastMessage = 0;
 
@@ -33,14 +40,15 @@ public final class SlowDeskTest {
 
     private void run() {
         same("begin " + ownKind, () -> desk.begin(ownKind), () -> slow.begin(ownKind));
-        for (int call = 1; call < CALLS; call++) {
+        while (calls + CALLS_OF_A_TURN + CALLS_OF_THE_STATE <= CALLS) {
             if (random.nextInt(20) == 0) {
                 signAndVerify();
             } else {
                 oneCall(random.nextInt(18));
             }
-            sameState();
+            sameRegister(random.nextInt(Desks.REGISTERS));
         }
+        sameState();
     }
 
     private void oneCall(int which) {
@@ -130,14 +138,14 @@ public final class SlowDeskTest {
         int b = (a + 1 + random.nextInt(11)) % 12;
         int key = random.nextInt(TOP);
         int message = random.nextInt(TOP);
-        if (slow.packed(a) == 1) {
+        if (slow.packed(a) == Desks.NEUTRAL) {
             return;
         }
         same("times", () -> desk.times(b, key, a), () -> slow.times(b, key, a));
         same("sign", () -> desk.sign(a, key, message), () -> slow.sign(a, key, message));
-        lastSignature = desk.sign(a, key, message);
+        lastSignature = slow.sign(a, key, message);
         lastMessage = message;
-        check.due("verify of what is signed", desk.verify(a, b, message, lastSignature), true);
+        same("verify of what is signed", () -> desk.verify(a, b, message, lastSignature) ? 1 : 0, () -> 1);
         same("verify", () -> desk.verify(a, b, message, lastSignature) ? 1 : 0,
             () -> slow.verify(a, b, message, lastSignature) ? 1 : 0);
     }
@@ -171,14 +179,21 @@ public final class SlowDeskTest {
     }
 
     private void same(String call, LongSupplier fast, LongSupplier reference) {
+        calls++;
         check.due("kind " + slow.count(0) + ": " + call, outcome(fast), outcome(reference));
+    }
+
+    private void sameRegister(int r) {
+        same("x in " + r, () -> desk.get(r, false), () -> slow.get(r, false));
+        same("y in " + r, () -> desk.get(r, true), () -> slow.get(r, true));
+        same("registers in use", () -> desk.count(4), () -> slow.count(4));
     }
 
     private void sameState() {
         for (int what = 0; what <= 4; what++) {
             check.due("count " + what, desk.count(what), slow.count(what));
         }
-        for (int r = 0; r < 12; r++) {
+        for (int r = 0; r < Desks.REGISTERS; r++) {
             check.due("x in " + r, desk.get(r, false), slow.get(r, false));
             check.due("y in " + r, desk.get(r, true), slow.get(r, true));
         }
